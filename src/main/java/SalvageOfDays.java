@@ -408,22 +408,22 @@ public final class SalvageOfDays {
             return NOT_SO;
         }
         thought.becomes(truth);
-        return mostLeft(p, k, others);
+        return mostLeft(thought, p, k, others);
     }
 
-    /** Tries each way in thought, and takes every try back; others, 3 at most, is the depth. */
-    private int mostLeft(int p, int k, int others) {
+    /** Tries each way, and takes every try back; others, 3 at most, tells how deep it goes. */
+    private static int mostLeft(Scene scene, int p, int k, int others) {
         if (others <= 0) {
-            return thought.can(p, k) ? thought.breath[p] - thought.cost(p, k) : NONE;
+            return scene.can(p, k) ? scene.breath[p] - scene.cost(p, k) : NONE;
         }
         int most = NONE;
         for (int other = 0; other < CASKS; other++) {
-            if (other != k && thought.can(p, other)) {
-                int breath = thought.breath[p];
-                thought.bringUp(p, other);
-                most = Math.max(most, mostLeft(p, k, others - 1));
-                thought.breath[p] = breath;
-                thought.place[other] = WRECK;
+            if (other != k && scene.can(p, other)) {
+                int breath = scene.breath[p];
+                scene.bringUp(p, other);
+                most = Math.max(most, mostLeft(scene, p, k, others - 1));
+                scene.breath[p] = breath;
+                scene.place[other] = WRECK;
             }
         }
         return most;
@@ -1091,7 +1091,7 @@ public final class SalvageOfDays {
         }
     }
 
-    /** A text as steps for a stack: a number not below 0 is put there, others are symbols below 0. */
+    /** A text as steps for a stack: a number from 0 on is put there, one below 0 is a symbol's. */
     private static final class Text {
         static final int REACHES = 0, COSTS = 1, FADES = 2, PARTS = 3;
         final int number;
@@ -1135,32 +1135,23 @@ public final class SalvageOfDays {
             }
             int top = 0;
             for (int i = part == REACHES ? 0 : ends[part - 1]; i < ends[part]; i++) {
-                top = stackedBy(-steps[i], top);
+                int symbol = -steps[i];
+                if (symbol <= 0 && top < stack.length) {
+                    stack[top] = -symbol;
+                    top++;
+                } else if (Tape.isName(symbol) && top < stack.length) {
+                    stack[top] = named[symbol - Tape.FIRST_NAME];
+                    top++;
+                } else if (symbol == Tape.NOT && top > 0) {
+                    stack[top - 1] = stack[top - 1] == 0 ? 1 : 0;
+                } else if (symbol == Tape.NEGATE && top > 0) {
+                    stack[top - 1] = -stack[top - 1];
+                } else if (top > 1) {
+                    top--;
+                    stack[top - 1] = joined(symbol, stack[top - 1], stack[top]);
+                }
             }
             return Math.max(0, Math.min(MOST, stack[0]));
-        }
-
-        /** Does one step on a stack of so many numbers: how many it has then. */
-        private int stackedBy(int symbol, int top) {
-            if (symbol <= 0 || symbol >= Tape.FIRST_NAME) {
-                if (top >= stack.length || symbol - Tape.FIRST_NAME >= named.length) {
-                    return top;
-                }
-                stack[top] = symbol <= 0 ? -symbol : named[symbol - Tape.FIRST_NAME];
-                return top + 1;
-            }
-            if (symbol == Tape.NOT || symbol == Tape.NEGATE) {
-                if (top > 0) {
-                    int one = stack[top - 1];
-                    stack[top - 1] = symbol == Tape.NEGATE ? -one : one == 0 ? 1 : 0;
-                }
-                return top;
-            }
-            if (top < 2) {
-                return top;
-            }
-            stack[top - 2] = joined(symbol, stack[top - 2], stack[top - 1]);
-            return top - 1;
         }
 
         private static int joined(int symbol, int left, int right) {
@@ -1268,7 +1259,7 @@ public final class SalvageOfDays {
 
         private boolean readsNot(int open) {
             if (symbol == NOT) {
-                return readsNotBehindNot(open);
+                return open < MOST_OPEN && readsNotBehindNot(open + 1);
             }
             if (!readsSum(open)) {
                 return false;
@@ -1284,11 +1275,8 @@ public final class SalvageOfDays {
         }
 
         private boolean readsNotBehindNot(int open) {
-            if (open >= MOST_OPEN) {
-                return false;
-            }
             next();
-            boolean isGood = readsNot(open + 1);
+            boolean isGood = readsNot(open);
             made.add(-NOT);
             return isGood;
         }
@@ -1324,12 +1312,16 @@ public final class SalvageOfDays {
                 return false;
             }
             if (symbol == '-') {
-                next();
-                boolean isGood = readsOne(open + 1);
-                made.add(-NEGATE);
-                return isGood;
+                return readsOneBehindMinus(open + 1);
             }
             return passes('(') && readsOr(open + 1) && passes(')');
+        }
+
+        private boolean readsOneBehindMinus(int open) {
+            next();
+            boolean isGood = readsOne(open);
+            made.add(-NEGATE);
+            return isGood;
         }
 
         private void next() {

@@ -28,8 +28,13 @@ final class Due {
     }
 
     static void feed(SalvageOfDays x, String text) {
-        for (int i = 0; i < text.length(); i++) {
-            x.feed(1, text.charAt(i), 0, 0, 0, 0);
+        for (int at = 0; at < text.length(); at += 5) {
+            int n = Math.min(5, text.length() - at);
+            int[] bytes = new int[5];
+            for (int i = 0; i < n; i++) {
+                bytes[i] = text.charAt(at + i);
+            }
+            x.feed(n, bytes[0], bytes[1], bytes[2], bytes[3], bytes[4]);
         }
     }
 
