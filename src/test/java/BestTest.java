@@ -181,6 +181,10 @@ public final class BestTest {
         x.put(3, 18);
         DUE.is("25 who", x.best(0), 3);
         DUE.is("25 how many", x.best(1), 3);
+        x.put(0, 18);
+        DUE.is("25 of like ones the first", x.best(0), 0);
+        x.put(0, 24);
+        DUE.is("25 how many", x.best(1), 4);
         for (int what : new int[] {-1, 2, MIN, MAX}) {
             DUE.is("25 what", x.best(what), SalvageOfDays.BAD);
         }

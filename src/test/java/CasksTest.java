@@ -138,7 +138,7 @@ public final class CasksTest {
         for (int i = 1; i <= 31; i++) {
             DUE.is("6 five more", x.feed(5, 255, 0, 255, 0, 255), 5 * i);
         }
-        DUE.is("6 three more", x.feed(3, 0, 0, 0, 0, 0), 158);
+        DUE.is("6 three more", x.feed(3, 0, 255, 0, 255, 0), 158);
         DUE.is("6 no room for three", x.feed(3, 0, 0, 0, 0, 0), SalvageOfDays.FULL);
         DUE.is("6 none came", x.count(6), 158);
         DUE.is("6 bad comes first", x.feed(5, 0, 0, 0, 0, 256), SalvageOfDays.BAD);

@@ -141,6 +141,9 @@ public final class StormsTest {
         DUE.is("38 who came since is none", x.told(2, 0), -5);
         DUE.is("38 the next one is new", x.diver(11, 3), 2);
         DUE.is("38 the next one is new", x.told(2, 2), 1);
+        DUE.is("38 it brings one", x.dive(2, 0), 3);
+        x.back();
+        DUE.is("38 and one more is new", x.diver(11, 3), 2);
         DUE.is("38 the next one brought none", x.told(2, 1), 0);
         DUE.is("38 again", x.back(), 2);
         DUE.isTrue("38 all as it was", before.equals(Due.all(x)));

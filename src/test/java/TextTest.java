@@ -62,6 +62,14 @@ public final class TextTest {
         faultOne("1 + ^99999999999999999999");
         faultOne("^depth");
         faultOne("^dee");
+        faultOne("^keep");
+        faultOne("^deepz");
+        faultOne("^adeep");
+        faultOne("(^depth)");
+        faultOne("- ^depth");
+        faultOne("not ^depth");
+        faultOne("1 + ^depth");
+        faultOne("(^12345)");
         faultOne("^notnot 1");
         faultOne("^breathdeep");
         fault("^reachesbreath;costs 0;fades 0;");
@@ -155,9 +163,10 @@ public final class TextTest {
 
     private static void textsAreNumbered() {
         SalvageOfDays x = new SalvageOfDays();
+        x.diver(0, 0);
         for (int i = 1; i <= 5; i++) {
             DUE.is("7 a fault takes no number", Due.text(x, "reaches 1"), -109);
-            DUE.is("7 number", Due.text(x, "reaches " + i + ";costs 0;fades " + i + ";"), i);
+            DUE.is("7 number", Due.text(x, says(i + 10, i + 20, i)), i);
             DUE.is("7 the tape is empty then", x.count(6), 0);
             DUE.is("7 count(4)", x.count(4), i + 1);
             DUE.is("7 the law stays", x.count(5), 0);
@@ -169,7 +178,13 @@ public final class TextTest {
         for (int i = 1; i <= 5; i++) {
             x.force(i);
             DUE.is("7 each text stays as it was", x.asks(2, 0, 0), i);
+            DUE.is("7 nothing stays of a fault", x.asks(0, 0, 0), i + 10);
+            DUE.is("7 nothing stays of a fault", x.asks(1, 0, 0), i + 20);
         }
+    }
+
+    private static String says(int reaches, int costs, int fades) {
+        return "reaches " + reaches + ";costs " + costs + ";fades " + fades + ";";
     }
 
     /** 160 bytes with as many steps as these can ask for, and with the deepest waiting. */

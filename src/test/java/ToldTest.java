@@ -99,6 +99,11 @@ public final class ToldTest {
         DUE.is("28 by the other one", x.opened(0, 1), 1 << 1);
         Due.sheet(x, 0, 27);
         DUE.is("28 not by both", x.opened(0, 1), 0);
+        x.cask(0, 3, 1);
+        DUE.is("28 by the first cask", x.opened(0, 0), 0);
+        Due.sheet(x, 0, 17, 14);
+        DUE.is("28 by the first cask", x.opened(0, 0), 1);
+        x.cask(0, 3, 0);
         Due.sheet(x, 0, 0);
         DUE.is("28 by one of another sort", x.opened(0, 1), 1 << 4);
         x.sky(1, 95);
@@ -187,6 +192,14 @@ public final class ToldTest {
         DUE.is("32 twenty", x.cell(3, 19, 0), 1);
         DUE.is("32 the weather stays", x.bay(4), 10);
         DUE.is("32 the hour stays", x.count(3), 0);
+        Due.text(x, "reaches 0;costs 0;fades hour;");
+        x.force(1);
+        x.sky(6, 1);
+        x.film(3, 4, 4);
+        Due.sheet(x, 2, 9, 7, 4, 0);
+        DUE.is("32 by the hour", x.judge(3, 4), -1);
+        DUE.is("32 by the hour, as told", x.judge(2, 4), -1);
+        x.force(0);
         x.sky(4, 99);
         x.film(3, 4, 1);
         DUE.is("32 behind one hour", x.skies(3, 4, 1), 99);
@@ -266,6 +279,12 @@ public final class ToldTest {
         DUE.is("34 none is told", x.breaths(0, 0, 0), 100);
         DUE.is("34 none is told", x.breaths(0, 0, 1), 0);
         DUE.is("34 in thought", x.told(0, 0), 50);
+        SalvageOfDays y = Due.under("reaches 99;costs breath - more;fades 0;");
+        y.diver(25, 50);
+        y.cask(0, 0, 1);
+        Due.sheet(y, 0, 1);
+        DUE.is("34 costs breath, as of its kind", y.breaths(0, 0, 0), 95);
+        DUE.is("34 costs breath, as of its kind", y.breaths(0, 0, 1), 5);
     }
 
     private static void divesRefuse() {
