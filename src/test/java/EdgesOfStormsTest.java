@@ -338,6 +338,17 @@ public final class EdgesOfStormsTest extends Edges {
         is("not for six", x.diver(0, 8), FULL);
     }
 
+    static void promise38ThereIsRoomThoughSixWereInThought() {
+        SalvageOfDays x = fresh();
+        x.image();
+        for (int p = 0; p < 6; p++) {
+            x.diver(0, 50);
+        }
+        is("the last in thought", x.run(1, 15), 55);
+        x.back();
+        is("a first one", x.diver(0, 50), 0);
+    }
+
     static void promise38TheLaw() {
         SalvageOfDays x = fresh();
         Due.text(x, ALL_STAYS);
