@@ -70,6 +70,24 @@ public final class EdgesOfCasksTest extends Edges {
         is("fades 3", x.asks(2, 0, 5), 3);
     }
 
+    static void promise1Text0SaysSoOfAll() {
+        SalvageOfDays x = fresh();
+        x.diver(9, 0);
+        for (int v = 0; v <= 99; v++) {
+            x.put(0, v);
+            x.cask(7, 2, v);
+            is("reaches by breath " + v, x.asks(0, 0, 7), v);
+            is("costs at " + v, x.asks(1, 0, 7), Math.min(99, 2 * v));
+        }
+        for (int hour = 0; hour <= 999; hour += 3) {
+            SalvageOfDays y = fresh();
+            y.sky(6, hour);
+            int t = hour / 3 % 6;
+            y.sky(t, hour % 100);
+            is("fades of " + t + " by hour " + hour, y.asks(2, 0, t), 3);
+        }
+    }
+
     static void promise1TheTapeIsEmpty() {
         is("count(6)", fresh().count(6), 0);
         is("text()", fresh().text(), -100);

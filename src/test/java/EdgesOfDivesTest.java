@@ -513,6 +513,18 @@ public final class EdgesOfDivesTest extends Edges {
         is("tells 0 and 11", x.row(0, 0, 1), 2);
     }
 
+    static void promise20ItTellsWhatIsNoCaskFarBehind() {
+        SalvageOfDays x = fresh();
+        x.diver(0, 99);
+        for (int i : new int[] {11, 12, 20, 39}) {
+            zeros(x, 0, i + 1);
+            x.cell(0, i, 12);
+            is("in thought, number " + i, x.row(0, 0, 1), BAD);
+            is("truly, number " + i, x.salvage(0, 0), BAD);
+        }
+        is("none is brought up", x.count(2), 0);
+    }
+
     static void promise20ARowOfNone() {
         SalvageOfDays x = fresh();
         x.diver(0, 50);
@@ -567,6 +579,27 @@ public final class EdgesOfDivesTest extends Edges {
         is("brings up", x.row(0, 0, 1), 2);
         is("by hour 1000 it costs 1", x.row(0, 0, 2), 50 + 5 - 1 + 5);
         is("the hour stays", x.count(3), 999);
+    }
+
+    static void promise20ReachesByAnHourAbove999() {
+        SalvageOfDays x = Due.under("reaches hour-950;costs 0;fades 0;");
+        x.diver(0, 50);
+        x.cask(5, 2, 50);
+        x.cask(6, 2, 51);
+        x.sky(6, 999);
+        Due.sheet(x, 0, 5, 5, 6, 6);
+        is("49 by hour 999, 50 by 1000, 51 by 1001", x.row(0, 0, 0), 32 + 64);
+        is("hours", x.row(0, 0, 3), 2);
+    }
+
+    static void promise20AMateGoesByAnHourAbove999() {
+        SalvageOfDays x = Due.under("reaches 99;costs 60;fades 0;");
+        x.diver(30, 0);
+        x.sky(6, 999);
+        Due.sheet(x, 0, 1, 1, 2, 1, 3);
+        is("for nothing by hour 1000, not by 999 nor 1001", x.row(0, 0, 0), 2 + 4);
+        is("hours", x.row(0, 0, 3), 3);
+        is("breath", x.row(0, 0, 2), 30);
     }
 
     static void promise20BroughtAheadIsNotCounted() {

@@ -468,6 +468,8 @@ public final class EdgesOfHostTest extends Edges {
         is("half a pair alone", x.diversBy(0, 2, 2, 1), OUTSIDE);
         is("half a pair below", x.diversBy(0, 2, -1, 1), OUTSIDE);
         is("none came", x.count(0), 1);
+        x.cell(0, 2, 60);
+        is("half a pair, of no kind", x.diversBy(0, 2, 2, 1), OUTSIDE);
     }
 
     static void promise42PlacesFarOff() {

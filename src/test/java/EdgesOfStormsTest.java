@@ -338,6 +338,21 @@ public final class EdgesOfStormsTest extends Edges {
         is("not for six", x.diver(0, 8), FULL);
     }
 
+    static void promise38WhoComesThenIsNotAsWhoWasThere() {
+        SalvageOfDays x = fresh();
+        x.diver(0, 7);
+        x.image();
+        x.diver(59, 99);
+        x.dive(1, 0);
+        x.back();
+        is("nobody of those can any more", x.best(1), 2);
+        x.diver(34, 8);
+        int[] due = {8, 0, 3, 4};
+        for (int what = 0; what < due.length; what++) {
+            is("what " + what, x.told(1, what), due[what]);
+        }
+    }
+
     static void promise38ThereIsRoomThoughSixWereInThought() {
         SalvageOfDays x = fresh();
         x.image();

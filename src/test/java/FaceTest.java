@@ -29,6 +29,7 @@ public final class FaceTest {
         nothingElse();
         classesInside();
         source();
+        madeAtOnce();
         DUE.end();
     }
 
@@ -135,6 +136,19 @@ public final class FaceTest {
             DUE.isTrue("at most 100 signs: " + line, line.length() <= 100);
             lines = line.isBlank() ? 0 : lines + 1;
             DUE.isTrue("some sixty lines at a stretch", lines <= 60);
+        }
+    }
+
+    /** What a call would make is counted; so all is made in fields and in the constructor. */
+    private static void madeAtOnce() throws IOException {
+        boolean isConstructor = false;
+        for (String line : Files.readAllLines(Path.of("src/main/java/SalvageOfDays.java"))) {
+            isConstructor |= line.equals("    public SalvageOfDays() {");
+            isConstructor &= !line.equals("    }");
+            boolean isField = line.matches(" +(private )?final .+ = new .+;");
+            boolean makes = line.matches(".*\\bnew\\b.*") && !line.matches(" *(//|\\*|/\\*).*")
+                || line.contains("Arrays.copyOf") || line.contains(".clone()");
+            DUE.isTrue("made at once: " + line, !makes || isField || isConstructor);
         }
     }
 }
